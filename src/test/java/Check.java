@@ -1,0 +1,89 @@
+/** Counts the answers that are not as due, and says the terms that the tests make most. */
+final class Check {
+    static final int NUMBER = 0;
+    static final int INPUT = 1;
+    static final int DEFINED = 2;
+    static final int PAID = 3;
+    static final int ADD = 4;
+    static final int SUB = 5;
+    static final int MUL = 6;
+    static final int LESS = 7;
+    static final int SAME = 8;
+    static final int MIN = 9;
+    static final int MAX = 10;
+    static final int SHARE = 11;
+    static final int NOT = 12;
+    static final int BOTH = 13;
+    static final int ANY = 14;
+    static final int IF = 15;
+    static final int NOTHING = 16;
+    static final int DEFAULT = 17;
+    static final int ALSO = 18;
+    static final int SCALE = 19;
+
+    static final int REFUSED = RulePayroll.REFUSED;
+    static final int FULL = RulePayroll.FULL;
+    static final long NONE = RulePayroll.NONE;
+    static final long EMPTY = RulePayroll.EMPTY;
+    static final long CONFLICT = RulePayroll.FAULT + 1;
+    static final long MISSING = RulePayroll.FAULT + 2;
+    static final long ZERO = RulePayroll.FAULT + 3;
+    static final long RANGE = RulePayroll.FAULT + 4;
+
+    private int wrong;
+    private int asked;
+
+    void due(String what, long want, long got) {
+        asked++;
+        if (want != got) {
+            wrong++;
+            System.out.println(what + " answered " + got + ", due is " + want);
+        }
+    }
+
+    void end() {
+        System.out.println(asked + " answers, " + wrong + " not as due");
+        if (wrong != 0 || asked == 0) {
+            System.exit(1);
+        }
+    }
+
+    static int number(RulePayroll x, int a) {
+        return x.node(NUMBER, a, 0, 0);
+    }
+
+    static int inputNode(RulePayroll x, int i) {
+        return x.node(INPUT, i, 0, 0);
+    }
+
+    static int nothing(RulePayroll x) {
+        return x.node(NOTHING, 0, 0, 0);
+    }
+
+    /** A node that is FAULT 3. */
+    static int zeroFault(RulePayroll x) {
+        int one = number(x, 1);
+        return x.node(SHARE, one, one, number(x, 0));
+    }
+
+    /** A node that is FAULT 1. */
+    static int conflictFault(RulePayroll x) {
+        int one = number(x, 1);
+        return x.node(ALSO, one, one, 0);
+    }
+
+    /** Definitions 0, 1, 2 become a person's inputs 0, 1 and 2. */
+    static RulePayroll payrollOfInputs() {
+        RulePayroll x = new RulePayroll();
+        for (int d = 0; d < 3; d++) {
+            x.define(d, inputNode(x, d));
+        }
+        return x;
+    }
+
+    static void wages(RulePayroll x, int p, int gross, int tax, int net) {
+        x.input(p, 0, gross);
+        x.input(p, 1, tax);
+        x.input(p, 2, net);
+    }
+}
