@@ -623,10 +623,6 @@ public final class RulePayroll {
         final boolean[] takenBack = new boolean[MAX_RUNS];
         int made;
 
-        Runs() {
-            Arrays.fill(amounts, NONE);
-        }
-
         boolean has(int r) {
             return within(r, made);
         }
@@ -647,7 +643,7 @@ public final class RulePayroll {
             return (r * PERSONS + p) * AMOUNTS;
         }
 
-        /** A run done anew must not keep what it held before. */
+        /** Before a run is made: a new one has zeros there, one done anew what it had before. */
         void wipe(int r, int p) {
             writeSlip(r, p, NONE, NONE, NONE);
             hold(r, p, NOT_HELD);

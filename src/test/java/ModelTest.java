@@ -13,6 +13,7 @@ public final class ModelTest {
     private final Random random;
     private final RulePayroll x = new RulePayroll();
     private final Model model = new Model();
+    private boolean rich;
 
     private ModelTest(Check check, long seed) {
         this.check = check;
@@ -25,6 +26,7 @@ public final class ModelTest {
             ModelTest test = new ModelTest(check, run);
             if (run % 3 == 0) {
                 test.plainPayroll();
+                test.rich = run % 4 == 0;
             }
             for (int call = 0; call < CALLS; call++) {
                 test.callBoth(run % 2 == 0 && call < 120);
@@ -63,7 +65,7 @@ public final class ModelTest {
         if (choice < 12) {
             bothNode(random.nextInt(40) == 0 ? any(20) : random.nextInt(20), operand(), operand(), operand());
         } else if (choice < 18) {
-            bothDefine(any(8), random.nextInt(1 + model.count(0)));
+            bothDefine(rich ? 3 + random.nextInt(5) : any(8), random.nextInt(1 + model.count(0)));
         } else {
             callOther(choice);
         }
@@ -76,15 +78,15 @@ public final class ModelTest {
             int rate = random.nextInt(8) == 0 ? amount() : random.nextInt(1001);
             due("step(" + t + ", " + limit + ", " + rate + ")", model.step(t, limit, rate), x.step(t, limit, rate));
         } else if (choice < 21) {
-            int d = any(8);
+            int d = rich ? 3 + random.nextInt(5) : any(8);
             due("undefine(" + d + ")", model.undefine(d), x.undefine(d));
         } else if (choice < 22) {
             int t = any(2);
             due("clear(" + t + ")", model.clear(t), x.clear(t));
         } else if (choice < 40) {
             int p = any(6);
-            int i = any(8);
-            int amount = amount();
+            int i = any(rich ? 2 : 8);
+            int amount = rich ? wage() : amount();
             due("input(" + p + ", " + i + ", " + amount + ")", model.input(p, i, amount), x.input(p, i, amount));
         } else if (choice < 45) {
             int p = any(6);
@@ -169,6 +171,11 @@ public final class ModelTest {
             return random.nextInt(10) - 1;
         }
         return choice < 7 ? random.nextInt(2) : random.nextInt(1 + model.count(0));
+    }
+
+    /** Such that a run taken back often leaves a PAID that is no int. */
+    private int wage() {
+        return (random.nextInt(5) - 2) * (random.nextInt(3) == 0 ? 1 << 30 : 700000000);
     }
 
     private int amount() {

@@ -25,9 +25,13 @@ public final class PayTest {
         }
         check.due("the 17th", Check.FULL, x.pay());
         check.due("paid", 32, x.paid(0, 0));
+        check.due("account(0) of 16 runs", 32, x.account(0));
+        check.due("count(2) of 16 runs", 0, x.count(2));
+        check.due("count(3) of 16 runs", 16, x.count(3));
         check.due("back of the last", 0, x.back(15));
         check.due("the 17th after a back", Check.FULL, x.pay());
         check.due("count(1)", 16, x.count(1));
+        check.due("count(2) after a back", 1, x.count(2));
         check.due("paid", 30, x.paid(0, 0));
     }
 
