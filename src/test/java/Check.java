@@ -30,14 +30,23 @@ final class Check {
     static final long ZERO = RulePayroll.FAULT + 3;
     static final long RANGE = RulePayroll.FAULT + 4;
 
+    static final int MIN_INT = Integer.MIN_VALUE;
+    static final int MAX_INT = Integer.MAX_VALUE;
+
+    private String sentence = "";
     private int wrong;
     private int asked;
+
+    /** The document's words by which the answers from here on are due. */
+    void sentence(String words) {
+        sentence = " (" + words + ")";
+    }
 
     void due(String what, long want, long got) {
         asked++;
         if (want != got) {
             wrong++;
-            System.out.println(what + " answered " + got + ", due is " + want);
+            System.out.println(what + " answered " + got + ", due is " + want + sentence);
         }
     }
 
@@ -72,6 +81,38 @@ final class Check {
         return x.node(ALSO, one, one, 0);
     }
 
+    /** A node that is FAULT 2. */
+    static int missingFault(RulePayroll x) {
+        return x.node(NOT, nothing(x), 0, 0);
+    }
+
+    /** A node that is FAULT 4. */
+    static int rangeFault(RulePayroll x) {
+        return x.node(ADD, number(x, MAX_INT), number(x, 1), 0);
+    }
+
+    /** The numbers just outside 0 .. last, and the farthest ones. */
+    static int[] outside(int last) {
+        return new int[] {MIN_INT, -2, -1, last + 1, last + 2, MAX_INT};
+    }
+
+    /** Which operands of a kind are nodes: 1 for a, 2 for b, 4 for c, added up. */
+    static int nodeOperands(int kind) {
+        switch (kind) {
+            case NUMBER: case INPUT: case DEFINED: case PAID: case NOTHING: return 0;
+            case NOT: return 1;
+            case SCALE: return 2;
+            case SHARE: case IF: case DEFAULT: return 7;
+            default: return 3;
+        }
+    }
+
+    /** A node of a kind whose operand a (1), b (2) or c (4) is one thing and the others another. */
+    static int nodeWith(RulePayroll x, int kind, int which, int one, int others) {
+        int a = kind == SCALE && which != 1 ? 0 : others;
+        return x.node(kind, which == 1 ? one : a, which == 2 ? one : others, which == 4 ? one : others);
+    }
+
     /** Definitions 0, 1, 2 become a person's inputs 0, 1 and 2. */
     static RulePayroll payrollOfInputs() {
         RulePayroll x = new RulePayroll();
@@ -85,5 +126,26 @@ final class Check {
         x.input(p, 0, gross);
         x.input(p, 1, tax);
         x.input(p, 2, net);
+    }
+
+    /**
+     * Brings what is PAID to a person of payrollOfInputs, 0 before, to any gross and tax up to 1
+     * beyond the ints, by runs of which the first is taken back. The person is active afterwards.
+     */
+    static void bringPaidTo(RulePayroll x, int p, long gross, long tax) {
+        int first = x.count(1);
+        int grossSign = Long.signum(gross);
+        int taxSign = Long.signum(tax);
+        x.activate(p, true);
+        slip(x, p, -grossSign, -taxSign);
+        slip(x, p, gross / 2, tax / 2);
+        slip(x, p, gross - gross / 2 - grossSign, tax - tax / 2 - taxSign);
+        slip(x, p, grossSign, taxSign);
+        x.back(first);
+    }
+
+    private static void slip(RulePayroll x, int p, long gross, long tax) {
+        wages(x, p, (int) gross, (int) tax, (int) (gross - tax));
+        x.pay();
     }
 }
