@@ -23,6 +23,7 @@ public final class AskEdgeTest {
         paidIsExact();
         countOutOfRange();
         countsWhenAllIsFull();
+        countOfSlipsRunByRun();
         countOfDefinitions();
         check.end();
     }
@@ -334,6 +335,31 @@ public final class AskEdgeTest {
             check.due("count(1)", 16, x.count(1));
             check.due("count(2)", r + 1, x.count(2));
             check.due("count(3)", 90 - 6 * r, x.count(3));
+        }
+    }
+
+    /** Run r has slips of the persons below r, and of none else; the sums follow run by run. */
+    private static void countOfSlipsRunByRun() {
+        check.sentence("3: SLIPS of all runs that are not (TAKEN BACK) / ACCOUNTS: plus all gross of slips");
+        RulePayroll x = Check.payrollOfInputs();
+        int slips = 0;
+        for (int r = 0; r <= 6; r++) {
+            if (r > 0) {
+                x.activate(r - 1, true);
+                Check.wages(x, r - 1, 10, 3, 7);
+            }
+            x.pay();
+            slips += r;
+            check.due("count(3) after run " + r, slips, x.count(3));
+            check.due("account(0) after run " + r, 10 * slips, x.account(0));
+            check.due("account(1) after run " + r, -3 * slips, x.account(1));
+        }
+        for (int r = 6; r >= 0; r--) {
+            x.back(r);
+            slips -= r;
+            check.due("count(3) without run " + r, slips, x.count(3));
+            check.due("account(0) without run " + r, 10 * slips, x.account(0));
+            check.due("account(2) without run " + r, -7 * slips, x.account(2));
         }
     }
 

@@ -38,6 +38,7 @@ public final class RefusalTest {
         check.sentence("A refused call changes nothing.");
         allOf("a new object", log -> { }, refusedAtFirst());
         allOf("a payroll in use", RefusalTest::inUse, refusedInUse());
+        allOf("nodes of ten levels", RefusalTest::tenLevels, refusedUponTenLevels());
         allOf("a payroll that is full", RefusalTest::full, refusedWhenFull());
         allOf("a payroll whose last run is taken back", RefusalTest::lastTakenBack, refusedWhenLastTakenBack());
         check.sentence("a call that only asks changes nothing either");
@@ -51,7 +52,8 @@ public final class RefusalTest {
             List<Long> due = answersOf(state, null, part);
             for (Named named : refused) {
                 List<Long> got = answersOf(state, named, part);
-                for (int i = 0; i < due.size(); i++) {
+                check.due("how many answers after " + named.name() + " on " + where, due.size(), got.size());
+                for (int i = 0; i < Math.min(due.size(), got.size()); i++) {
                     check.due("call " + i + " after " + named.name() + " on " + where, due.get(i), got.get(i));
                 }
             }
@@ -117,6 +119,14 @@ public final class RefusalTest {
         }
     }
 
+    /** Nodes 0 .. 9 of the levels 1 .. 10. */
+    private static void tenLevels(Log log) {
+        log.add(log.x.node(Check.DEFINED, 3, 0, 0));
+        for (int n = 1; n < 10; n++) {
+            log.add(log.x.node(Check.NOT, n - 1, 0, 0));
+        }
+    }
+
     /** 70 nodes (16 to 25 of the levels 1 to 10), 8 definitions, 5 steps in both tables, 16 runs. */
     private static void full(Log log) {
         RulePayroll x = log.x;
@@ -175,6 +185,10 @@ public final class RefusalTest {
             log -> slips(log),
             log -> reasons(log),
             log -> makeNodes(log),
+            log -> makeChainsUpon(log, 0),
+            log -> makeChainsUpon(log, 5),
+            log -> makeChainsUpon(log, 10),
+            log -> makeChainsUpon(log, 15),
             log -> changeDefinitions(log),
             log -> changeTables(log),
             log -> changePersons(log),
@@ -242,6 +256,17 @@ public final class RefusalTest {
         }
         for (int n = 0; n < 70; n++) {
             log.add(x.define(n % 8, n));
+        }
+    }
+
+    /** What levels five of the nodes have: each has as many nodes put upon it as may be. */
+    private static void makeChainsUpon(Log log, int first) {
+        for (int n = first; n < first + 5; n++) {
+            int top = n;
+            for (int level = 0; level < 11 && top >= 0; level++) {
+                top = log.x.node(Check.NOT, top, 0, 0);
+                log.add(top);
+            }
         }
     }
 
@@ -346,16 +371,7 @@ public final class RefusalTest {
     private static List<Named> refusedInUse() {
         List<Named> calls = new ArrayList<>();
         outOfTheirRanges(calls);
-        for (int kind = 0; kind < 20; kind++) {
-            for (int which = 1; which <= 4; which *= 2) {
-                if ((Check.nodeOperands(kind) & which) != 0) {
-                    int refusedKind = kind;
-                    int operand = which;
-                    refused(calls, "kind " + kind + " of itself as operand " + which,
-                        x -> Check.nodeWith(x, refusedKind, operand, 20, 1));
-                }
-            }
-        }
+        asEveryOperand(calls, "the node itself", 20);
         for (int d = 0; d < 8; d++) {
             int definition = d;
             refused(calls, "define " + d + " by DEFINED " + d, x -> x.define(definition, 8 + definition));
@@ -375,6 +391,14 @@ public final class RefusalTest {
         none(calls, "slip of no run", x -> x.slip(3, 0, 0));
         none(calls, "slip of who is held", x -> x.slip(0, 2, 0));
         none(calls, "slip of who is not active", x -> x.slip(0, 1, 0));
+        return calls;
+    }
+
+    private static List<Named> refusedUponTenLevels() {
+        List<Named> calls = new ArrayList<>();
+        outOfTheirRanges(calls);
+        asEveryOperand(calls, "a node of level 10", 9);
+        refused(calls, "define 3 by a node of rank 4", x -> x.define(3, 9));
         return calls;
     }
 
@@ -476,6 +500,20 @@ public final class RefusalTest {
         Log twin = new Log();
         state.askOf(twin);
         calls.add(new Named(name, call.on(twin.x), call));
+    }
+
+    /** Nodes of every kind that takes nodes, one of its operands being bad, the others node 0. */
+    private static void asEveryOperand(List<Named> calls, String what, int bad) {
+        for (int kind = 0; kind < 20; kind++) {
+            for (int which = 1; which <= 4; which *= 2) {
+                if ((Check.nodeOperands(kind) & which) != 0) {
+                    int refusedKind = kind;
+                    int operand = which;
+                    refused(calls, "kind " + kind + " with " + what + " as operand " + which,
+                        x -> Check.nodeWith(x, refusedKind, operand, bad, 0));
+                }
+            }
+        }
     }
 
     private interface CallOfOne {
