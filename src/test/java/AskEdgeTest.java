@@ -5,26 +5,7 @@ public final class AskEdgeTest {
     private static final int MIN_INT = Check.MIN_INT;
 
     public static void main(String[] args) {
-        nothingInANewObject();
-        objectsHaveNothingInCommon();
-        slipOfNoRun();
-        slipOfNoPerson();
-        slipOfNoAmount();
-        slipOfWhoHasNone();
-        slipAtTheEdgesOfTheInts();
-        slipsOfARunTakenBack();
-        heldOfNoRunOrPerson();
-        heldOfWhoWasNot();
-        heldOfARunTakenBack();
-        accountOutOfRange();
-        accountsAreExact();
-        accountsBeyondTheInts();
-        paidOutOfRange();
-        paidIsExact();
-        countOutOfRange();
-        countsWhenAllIsFull();
-        countOfSlipsRunByRun();
-        countOfDefinitions();
+        check.run(AskEdgeTest.class);
         check.end();
     }
 
@@ -43,8 +24,8 @@ public final class AskEdgeTest {
         return x;
     }
 
+    @Sentence("No nodes, definitions, steps or runs.")
     private static void nothingInANewObject() {
-        check.sentence("RulePayroll(): No nodes, definitions, steps or runs.");
         RulePayroll x = new RulePayroll();
         for (int what = 0; what < 8; what++) {
             check.due("count(" + what + ")", 0, x.count(what));
@@ -68,8 +49,8 @@ public final class AskEdgeTest {
         check.due("the first node", 0, Check.number(x, 1));
     }
 
+    @Sentence("No nodes, definitions, steps or runs.")
     private static void objectsHaveNothingInCommon() {
-        check.sentence("RulePayroll(): No nodes, definitions, steps or runs, whatever another object has");
         RulePayroll used = twoRuns();
         used.step(0, 10, 10);
         used.step(1, 10, 10);
@@ -80,8 +61,8 @@ public final class AskEdgeTest {
         check.due("an input of the other", 21, used.value(0, 0));
     }
 
+    @Sentence("NONE if it has none, or there is no such")
     private static void slipOfNoRun() {
-        check.sentence("slip: NONE if .. there is no such: run");
         RulePayroll x = twoRuns();
         for (int bad : Check.outside(1)) {
             for (int what = 0; what < 3; what++) {
@@ -95,8 +76,8 @@ public final class AskEdgeTest {
         check.due("the last", 25, x.slip(1, 5, 2));
     }
 
+    @Sentence("NONE if it has none, or there is no such")
     private static void slipOfNoPerson() {
-        check.sentence("slip: NONE if .. there is no such: person");
         RulePayroll x = twoRuns();
         for (int bad : Check.outside(5)) {
             for (int r = 0; r < 2; r++) {
@@ -106,8 +87,8 @@ public final class AskEdgeTest {
         }
     }
 
+    @Sentence("NONE if it has none, or there is no such")
     private static void slipOfNoAmount() {
-        check.sentence("The gross (what 0), tax (1) or net (2) .. NONE if there is no such");
         RulePayroll x = twoRuns();
         for (int bad : Check.outside(2)) {
             check.due("slip(0, 0, " + bad + ")", Check.NONE, x.slip(0, 0, bad));
@@ -118,8 +99,8 @@ public final class AskEdgeTest {
         check.due("net", 15, x.slip(0, 0, 2));
     }
 
+    @Sentence("NONE if it has none, or there is no such")
     private static void slipOfWhoHasNone() {
-        check.sentence("slip: NONE if it has none");
         RulePayroll x = twoRuns();
         for (int r = 0; r < 2; r++) {
             for (int what = 0; what < 3; what++) {
@@ -129,8 +110,20 @@ public final class AskEdgeTest {
         }
     }
 
+    @Sentence("The gross (what 0), tax (1) or net (2) of person p's SLIP in run r")
+    private static void slipsOfTwoRuns() {
+        RulePayroll x = twoRuns();
+        int[][][] slips = {{{20, 5, 15}, {30, 6, 24}}, {{21, 5, 16}, {31, 6, 25}}};
+        for (int r = 0; r < 2; r++) {
+            for (int what = 0; what < 3; what++) {
+                check.due("slip(" + r + ", 0, " + what + ")", slips[r][0][what], x.slip(r, 0, what));
+                check.due("slip(" + r + ", 5, " + what + ")", slips[r][1][what], x.slip(r, 5, what));
+            }
+        }
+    }
+
+    @Sentence("The gross (what 0), tax (1) or net (2) of person p's SLIP in run r")
     private static void slipAtTheEdgesOfTheInts() {
-        check.sentence("slip: the gross, tax or net, the least and the greatest int too");
         int[][] rows = {
             {MAX_INT, MAX_INT, 0}, {MIN_INT, MIN_INT, 0}, {MAX_INT, 0, MAX_INT}, {MIN_INT, 0, MIN_INT},
             {-1, MAX_INT, MIN_INT}, {-1, MIN_INT, MAX_INT}, {0, 0, 0}
@@ -147,8 +140,8 @@ public final class AskEdgeTest {
         }
     }
 
+    @Sentence("a run TAKEN BACK keeps its SLIPS.")
     private static void slipsOfARunTakenBack() {
-        check.sentence("a run TAKEN BACK keeps its SLIPS");
         RulePayroll x = twoRuns();
         x.back(1);
         x.activate(0, false);
@@ -162,8 +155,8 @@ public final class AskEdgeTest {
         check.due("none of who was not active", Check.NONE, x.slip(1, 2, 0));
     }
 
+    @Sentence("REFUSED if there is no such run or person.")
     private static void heldOfNoRunOrPerson() {
-        check.sentence("held: REFUSED if there is no such run or person.");
         RulePayroll x = twoRuns();
         for (int bad : Check.outside(1)) {
             check.due("held(" + bad + ", 0)", Check.REFUSED, x.held(bad, 0));
@@ -177,8 +170,8 @@ public final class AskEdgeTest {
         }
     }
 
+    @Sentence("Why person p was HELD in run r: its reason; 0 if it was not, or not active")
     private static void heldOfWhoWasNot() {
-        check.sentence("held: its reason; 0 if it was not, or not active");
         RulePayroll x = twoRuns();
         for (int r = 0; r < 2; r++) {
             int[] reasons = {0, 5, 0, 0, 0, 0};
@@ -192,8 +185,8 @@ public final class AskEdgeTest {
         check.due("the reason from before", 5, x.held(1, 1));
     }
 
+    @Sentence("Why person p was HELD in run r: its reason")
     private static void heldOfARunTakenBack() {
-        check.sentence("Why person p was HELD in run r: a run TAKEN BACK is a run still");
         RulePayroll x = twoRuns();
         x.back(0);
         check.due("of who was held", 5, x.held(0, 1));
@@ -201,8 +194,8 @@ public final class AskEdgeTest {
         check.due("of who was not active", 0, x.held(0, 4));
     }
 
+    @Sentence("What account a 0 .. 2 holds; NONE for another.")
     private static void accountOutOfRange() {
-        check.sentence("What account a 0 .. 2 holds; NONE for another.");
         RulePayroll x = twoRuns();
         for (int bad : Check.outside(2)) {
             check.due("account(" + bad + ")", Check.NONE, x.account(bad));
@@ -212,8 +205,9 @@ public final class AskEdgeTest {
         check.due("account(2)", -80, x.account(2));
     }
 
+    @Sentence("ACCOUNTS (exact): 0 wages: plus all gross of slips; 1 tax due: minus all tax; 2 net due: "
+        + "minus all net.")
     private static void accountsAreExact() {
-        check.sentence("ACCOUNTS (exact): 0 wages: plus all gross of slips; 1 tax due: minus all tax; 2 net due: minus all net.");
         RulePayroll x = Check.payrollOfInputs();
         x.activate(0, true);
         x.activate(1, true);
@@ -235,8 +229,8 @@ public final class AskEdgeTest {
     }
 
     /** All persons are paid and charged in turn, and what they were charged is taken back. */
+    @Sentence("ACCOUNTS (exact)")
     private static void accountsBeyondTheInts() {
-        check.sentence("ACCOUNTS (exact), as far as 16 runs of 6 persons go");
         RulePayroll x = Check.payrollOfInputs();
         for (int p = 0; p < 6; p++) {
             x.activate(p, true);
@@ -261,8 +255,8 @@ public final class AskEdgeTest {
         check.due("count(3)", 48, x.count(3));
     }
 
+    @Sentence("What was PAID to person p 0 .. 5 so far: the gross (what 0) or tax (1), exactly; NONE for others.")
     private static void paidOutOfRange() {
-        check.sentence("What was PAID to person p 0 .. 5 so far: the gross (what 0) or tax (1), exactly; NONE for others.");
         RulePayroll x = twoRuns();
         for (int bad : Check.outside(5)) {
             check.due("paid(" + bad + ", 0)", Check.NONE, x.paid(bad, 0));
@@ -280,8 +274,8 @@ public final class AskEdgeTest {
         check.due("paid(2, 0) of who is not active", 0, x.paid(2, 0));
     }
 
+    @Sentence("the gross (what 0) or tax (1), exactly")
     private static void paidIsExact() {
-        check.sentence("paid: exactly, at the ends of the ints and beyond");
         long[] ends = {MAX_INT, MAX_INT + 1L, MIN_INT, MIN_INT - 1L};
         for (long end : ends) {
             RulePayroll x = Check.payrollOfInputs();
@@ -295,8 +289,31 @@ public final class AskEdgeTest {
         }
     }
 
+    @Sentence("0: nodes; 1: runs made; 2: runs TAKEN BACK; 3: SLIPS of all runs that are not; 4: persons "
+        + "active; 5, 6: steps of table what - 5; 7: bit d set for each definition d.")
+    private static void countsThatAllDiffer() {
+        RulePayroll x = twoRuns();
+        for (int run = 2; run < 10; run++) {
+            x.pay();
+        }
+        x.back(0);
+        x.back(9);
+        x.activate(5, false);
+        x.activate(2, true);
+        x.activate(3, true);
+        for (int s = 1; s <= 5; s++) {
+            x.step(0, s, 0);
+        }
+        x.step(1, 1, 0);
+        x.define(6, 0);
+        int[] counts = {3, 10, 2, 16, 4, 5, 1, 64 + 7};
+        for (int what = 0; what < 8; what++) {
+            check.due("count(" + what + ")", counts[what], x.count(what));
+        }
+    }
+
+    @Sentence("Else REFUSED.")
     private static void countOutOfRange() {
-        check.sentence("count: Else REFUSED.");
         RulePayroll x = twoRuns();
         for (int bad : Check.outside(7)) {
             check.due("count(" + bad + ")", Check.REFUSED, x.count(bad));
@@ -307,8 +324,9 @@ public final class AskEdgeTest {
         }
     }
 
+    @Sentence("0: nodes; 1: runs made; 2: runs TAKEN BACK; 3: SLIPS of all runs that are not; 4: persons "
+        + "active; 5, 6: steps of table what - 5")
     private static void countsWhenAllIsFull() {
-        check.sentence("0: nodes; 1: runs made; 2: runs TAKEN BACK; 3: SLIPS of all runs that are not; 4: persons active; 5, 6: steps");
         RulePayroll x = Check.payrollOfInputs();
         for (int n = 3; n < 70; n++) {
             Check.nothing(x);
@@ -339,8 +357,11 @@ public final class AskEdgeTest {
     }
 
     /** Run r has slips of the persons below r, and of none else; the sums follow run by run. */
+    @Sentence({
+        "3: SLIPS of all runs that are not",
+        "0 wages: plus all gross of slips; 1 tax due: minus all tax; 2 net due: minus all net."
+    })
     private static void countOfSlipsRunByRun() {
-        check.sentence("3: SLIPS of all runs that are not (TAKEN BACK) / ACCOUNTS: plus all gross of slips");
         RulePayroll x = Check.payrollOfInputs();
         int slips = 0;
         for (int r = 0; r <= 6; r++) {
@@ -363,8 +384,8 @@ public final class AskEdgeTest {
         }
     }
 
+    @Sentence("7: bit d set for each definition d.")
     private static void countOfDefinitions() {
-        check.sentence("7: bit d set for each definition d");
         for (int d = 0; d < 8; d++) {
             RulePayroll x = new RulePayroll();
             int n = Check.nothing(x);

@@ -1,3 +1,9 @@
+import java.lang.reflect.InvocationTargetException;
+import java.lang.reflect.Method;
+import java.util.ArrayList;
+import java.util.Comparator;
+import java.util.List;
+
 /** Counts the answers that are not as due, and says the terms that the tests make most. */
 final class Check {
     static final int NUMBER = 0;
@@ -33,20 +39,47 @@ final class Check {
     static final int MIN_INT = Integer.MIN_VALUE;
     static final int MAX_INT = Integer.MAX_VALUE;
 
-    private String sentence = "";
+    private String sentences = "";
     private int wrong;
     private int asked;
 
-    /** The document's words by which the answers from here on are due. */
-    void sentence(String words) {
-        sentence = " (" + words + ")";
+    /** Runs the test methods of a class, those with a Sentence, each by its own. */
+    void run(Class<?> tests) {
+        for (Method method : methodsWithSentences(tests)) {
+            sentences = " (" + String.join(" / ", method.getAnnotation(Sentence.class).value()) + ")";
+            int before = asked;
+            invoke(method);
+            due(method.getName() + " asks for something", 1, asked > before ? 1 : 0);
+            sentences = "";
+        }
+    }
+
+    static List<Method> methodsWithSentences(Class<?> tests) {
+        List<Method> methods = new ArrayList<>();
+        for (Method method : tests.getDeclaredMethods()) {
+            if (method.isAnnotationPresent(Sentence.class)) {
+                methods.add(method);
+            }
+        }
+        methods.sort(Comparator.comparing(Method::getName));
+        return methods;
+    }
+
+    private void invoke(Method method) {
+        try {
+            method.setAccessible(true);
+            method.invoke(null);
+        } catch (IllegalAccessException | InvocationTargetException thrown) {
+            wrong++;
+            System.out.println(method.getName() + " was broken off by " + thrown.getCause() + sentences);
+        }
     }
 
     void due(String what, long want, long got) {
         asked++;
         if (want != got) {
             wrong++;
-            System.out.println(what + " answered " + got + ", due is " + want + sentence);
+            System.out.println(what + " answered " + got + ", due is " + want + sentences);
         }
     }
 

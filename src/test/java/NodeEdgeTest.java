@@ -6,24 +6,7 @@ public final class NodeEdgeTest {
     };
 
     public static void main(String[] args) {
-        nodesAreNumberedAsTheyAreMade();
-        refusedCallsUseUpNoNumber();
-        operandsAreEarlierNodes();
-        noNodeIsThereAtFirst();
-        levelIsOneWithoutNodes();
-        levelOfDefinedIsOneWhateverItsDefinition();
-        levelIsOneMoreThanTheGreatest();
-        levelOfDefaultWithoutExceptions();
-        levelWouldBeEleven();
-        kindOutOfRange();
-        inputOperand();
-        definedOperand();
-        paidOperand();
-        tableOperand();
-        numberIsAnyInt();
-        seventyNodes();
-        refusedWhenFull();
-        operandsThatAreNotNamed();
+        check.run(NodeEdgeTest.class);
         check.end();
     }
 
@@ -61,8 +44,11 @@ public final class NodeEdgeTest {
         return level;
     }
 
+    @Sentence({
+        "NODES are numbered 0, 1, .. as they are made, at most 70",
+        "Makes a node: its number."
+    })
     private static void nodesAreNumberedAsTheyAreMade() {
-        check.sentence("NODES are numbered 0, 1, .. as they are made, at most 70");
         RulePayroll x = new RulePayroll();
         for (int n = 0; n < 70; n++) {
             check.due("the node after " + n, n, Check.number(x, 1000 + n));
@@ -74,8 +60,8 @@ public final class NodeEdgeTest {
         }
     }
 
+    @Sentence("A refused call changes nothing.")
     private static void refusedCallsUseUpNoNumber() {
-        check.sentence("A refused call changes nothing.");
         RulePayroll x = new RulePayroll();
         for (int n = 0; n < 5; n++) {
             refused(x, 20, 0, 0, 0);
@@ -84,8 +70,11 @@ public final class NodeEdgeTest {
         }
     }
 
+    @Sentence({
+        "their operands are earlier nodes.",
+        "an operand out of its range or no node"
+    })
     private static void operandsAreEarlierNodes() {
-        check.sentence("their operands are earlier nodes / an operand .. no node: REFUSED");
         for (int kind = 0; kind < 20; kind++) {
             for (int which = 1; which <= 4; which *= 2) {
                 if ((Check.nodeOperands(kind) & which) != 0) {
@@ -117,8 +106,8 @@ public final class NodeEdgeTest {
         }
     }
 
+    @Sentence("an operand out of its range or no node")
     private static void noNodeIsThereAtFirst() {
-        check.sentence("an operand out of its range or no node: REFUSED, on a new object");
         for (int kind = 0; kind < 20; kind++) {
             RulePayroll x = new RulePayroll();
             if (Check.nodeOperands(kind) == 0) {
@@ -135,8 +124,8 @@ public final class NodeEdgeTest {
         made(x, Check.DEFAULT, -1, 0, 0);
     }
 
+    @Sentence("Its LEVEL is 1 without operands that are nodes")
     private static void levelIsOneWithoutNodes() {
-        check.sentence("Its LEVEL is 1 without operands that are nodes");
         for (int kind : WITHOUT_NODES) {
             RulePayroll x = tenLevels();
             int n = x.node(kind, kind == Check.PAID ? 1 : 7, 9, 9);
@@ -144,8 +133,8 @@ public final class NodeEdgeTest {
         }
     }
 
+    @Sentence("Its LEVEL is 1 without operands that are nodes")
     private static void levelOfDefinedIsOneWhateverItsDefinition() {
-        check.sentence("Its LEVEL is 1 without operands that are nodes: DEFINED too");
         RulePayroll x = tenLevels();
         check.due("define(0, a node of level 10)", 0, x.define(0, 9));
         int n = x.node(Check.DEFINED, 0, 0, 0);
@@ -153,8 +142,8 @@ public final class NodeEdgeTest {
         check.due("the top of twenty levels", 1, x.value(0, x.count(0) - 1) + x.value(0, x.count(0) - 2));
     }
 
+    @Sentence("else one more than the greatest of theirs")
     private static void levelIsOneMoreThanTheGreatest() {
-        check.sentence("else one more than the greatest of theirs");
         for (int kind = 0; kind < 20; kind++) {
             for (int which = 1; which <= 4; which *= 2) {
                 if ((Check.nodeOperands(kind) & which) == 0) {
@@ -169,8 +158,8 @@ public final class NodeEdgeTest {
         }
     }
 
+    @Sentence("17 DEFAULT of a (a node or -1), b, c: below.")
     private static void levelOfDefaultWithoutExceptions() {
-        check.sentence("17 DEFAULT of a (a node or -1): a LEVEL without a");
         RulePayroll x = tenLevels();
         check.due("level of DEFAULT -1, 1, 1", 2, levelOf(x, x.node(Check.DEFAULT, -1, 0, 0)));
         check.due("level of DEFAULT -1, 7, 3", 8, levelOf(x, x.node(Check.DEFAULT, -1, 6, 2)));
@@ -178,10 +167,17 @@ public final class NodeEdgeTest {
         refused(x, Check.DEFAULT, -1, 9, 0);
         refused(x, Check.DEFAULT, -1, 0, 9);
         made(x, Check.DEFAULT, -1, 8, 8);
+        refused(x, Check.DEFAULT, -2, 0, 0);
+        refused(x, Check.DEFAULT, Check.MIN_INT, 0, 0);
+        refused(x, Check.DEFAULT, -1, -1, 0);
+        refused(x, Check.DEFAULT, -1, 0, -1);
     }
 
+    @Sentence({
+        "at most 10.",
+        "or the LEVEL would be 11: REFUSED."
+    })
     private static void levelWouldBeEleven() {
-        check.sentence("or the LEVEL would be 11: REFUSED / at most 10");
         for (int kind = 0; kind < 20; kind++) {
             for (int which = 1; which <= 4; which *= 2) {
                 if ((Check.nodeOperands(kind) & which) == 0) {
@@ -197,8 +193,8 @@ public final class NodeEdgeTest {
         }
     }
 
+    @Sentence("kind out of 0 .. 19")
     private static void kindOutOfRange() {
-        check.sentence("kind out of 0 .. 19: REFUSED");
         RulePayroll x = new RulePayroll();
         Check.number(x, 0);
         for (int bad : Check.outside(19)) {
@@ -210,8 +206,11 @@ public final class NodeEdgeTest {
         }
     }
 
+    @Sentence({
+        "1 INPUT a (0 .. 7): that input of the person.",
+        "an operand out of its range"
+    })
     private static void inputOperand() {
-        check.sentence("1 INPUT a (0 .. 7): that input of the person");
         RulePayroll x = new RulePayroll();
         for (int bad : Check.outside(7)) {
             refused(x, Check.INPUT, bad, 0, 0);
@@ -222,11 +221,15 @@ public final class NodeEdgeTest {
         }
         for (int i = 0; i < 8; i++) {
             check.due("INPUT " + i, 50 + i, x.value(5, i));
+            check.due("INPUT " + i + " of another", 0, x.value(4, i));
         }
     }
 
+    @Sentence({
+        "2 DEFINED a (0 .. 7): what definition a is for the person.",
+        "an operand out of its range"
+    })
     private static void definedOperand() {
-        check.sentence("2 DEFINED a (0 .. 7): what definition a is for the person");
         RulePayroll x = new RulePayroll();
         for (int bad : Check.outside(7)) {
             refused(x, Check.DEFINED, bad, 0, 0);
@@ -240,10 +243,20 @@ public final class NodeEdgeTest {
         for (int d = 0; d < 8; d++) {
             check.due("DEFINED " + d, 50 + d, x.value(0, d));
         }
+        x.define(7, Check.inputNode(x, 3));
+        for (int p = 0; p < 6; p++) {
+            x.input(p, 3, 90 - p);
+        }
+        for (int p = 0; p < 6; p++) {
+            check.due("DEFINED 7 for " + p, 90 - p, x.value(p, 7));
+        }
     }
 
+    @Sentence({
+        "3 PAID a (0: gross, 1: tax): what was paid to the person so far.",
+        "an operand out of its range"
+    })
     private static void paidOperand() {
-        check.sentence("3 PAID a (0: gross, 1: tax): what was paid to the person so far");
         RulePayroll x = Check.payrollOfInputs();
         for (int bad : Check.outside(1)) {
             refused(x, Check.PAID, bad, 0, 0);
@@ -257,10 +270,18 @@ public final class NodeEdgeTest {
         x.pay();
         check.due("PAID gross", 9, x.value(2, 3));
         check.due("PAID tax", 4, x.value(2, 4));
+        check.due("PAID gross of another", 0, x.value(1, 3));
+        check.due("PAID tax of another", 0, x.value(3, 4));
+        x.pay();
+        check.due("PAID gross of two runs", 18, x.value(2, 3));
+        check.due("PAID tax of two runs", 8, x.value(2, 4));
     }
 
+    @Sentence({
+        "19 SCALE of table a (0, 1) for node b: below.",
+        "an operand out of its range"
+    })
     private static void tableOperand() {
-        check.sentence("19 SCALE of table a (0, 1) for node b");
         RulePayroll x = new RulePayroll();
         Check.number(x, 1000);
         for (int bad : Check.outside(1)) {
@@ -274,8 +295,8 @@ public final class NodeEdgeTest {
         check.due("SCALE of table 1", 4, x.value(0, 2));
     }
 
+    @Sentence("Kinds with operands a, b, c: 0 NUMBER a.")
     private static void numberIsAnyInt() {
-        check.sentence("0 NUMBER a");
         RulePayroll x = new RulePayroll();
         int[] numbers = {Check.MIN_INT, Check.MIN_INT + 1, -2, -1, 0, 1, Check.MAX_INT - 1, Check.MAX_INT};
         for (int n = 0; n < numbers.length; n++) {
@@ -292,8 +313,8 @@ public final class NodeEdgeTest {
         return x;
     }
 
+    @Sentence("70 nodes: FULL.")
     private static void seventyNodes() {
-        check.sentence("70 nodes: FULL.");
         RulePayroll x = tenLevels();
         for (int n = 10; n < 69; n++) {
             Check.number(x, n);
@@ -313,8 +334,9 @@ public final class NodeEdgeTest {
     }
 
     /** What is refused is refused, whether there is room or not: REFUSED stands first in the promise. */
+    @Sentence("kind out of 0 .. 19, an operand out of its range or no node, or the LEVEL would be 11: "
+        + "REFUSED. 70 nodes: FULL.")
     private static void refusedWhenFull() {
-        check.sentence("kind out of 0 .. 19, an operand ..: REFUSED. 70 nodes: FULL.");
         RulePayroll x = seventy();
         refused(x, 20, 0, 0, 0);
         refused(x, -1, 0, 0, 0);
@@ -326,8 +348,8 @@ public final class NodeEdgeTest {
         refused(x, Check.NOT, 9, 0, 0);
     }
 
+    @Sentence("Operands that are not named may be any int.")
     private static void operandsThatAreNotNamed() {
-        check.sentence("Operands that are not named may be any int.");
         int[] anys = {Check.MIN_INT, -2, -1, 0, 1, 8, 70, Check.MAX_INT};
         for (int kind = 0; kind < 20; kind++) {
             int named = Check.nodeOperands(kind);

@@ -35,16 +35,36 @@ public final class RefusalTest {
     }
 
     public static void main(String[] args) {
-        check.sentence("A refused call changes nothing.");
+        check.run(RefusalTest.class);
+        check.end();
+    }
+
+    @Sentence("A refused call changes nothing.")
+    private static void refusedCallsChangeNothing() {
         allOf("a new object", log -> { }, refusedAtFirst());
         allOf("a payroll in use", RefusalTest::inUse, refusedInUse());
         allOf("nodes of ten levels", RefusalTest::tenLevels, refusedUponTenLevels());
         allOf("a payroll that is full", RefusalTest::full, refusedWhenFull());
         allOf("a payroll whose last run is taken back", RefusalTest::lastTakenBack, refusedWhenLastTakenBack());
-        check.sentence("a call that only asks changes nothing either");
+    }
+
+    /** Nor does a call that only asks and is answered. */
+    @Sentence("A refused call changes nothing.")
+    private static void askingChangesNothing() {
         allOf("a payroll in use", RefusalTest::inUse, asking(RefusalTest::inUse));
         allOf("a payroll that is full", RefusalTest::full, asking(RefusalTest::full));
-        check.end();
+    }
+
+    /** Or NONE, where a call's own promise says so. */
+    @Sentence("Numbers out of their ranges are REFUSED in every call.")
+    private static void numbersOutOfTheirRangesAreRefused() {
+        List<Named> calls = new ArrayList<>();
+        outOfTheirRanges(calls);
+        for (Named named : calls) {
+            Log log = new Log();
+            inUse(log);
+            check.due(named.name(), named.want(), named.call().on(log.x));
+        }
     }
 
     private static void allOf(String where, Part state, List<Named> refused) {
@@ -189,6 +209,7 @@ public final class RefusalTest {
             log -> makeChainsUpon(log, 5),
             log -> makeChainsUpon(log, 10),
             log -> makeChainsUpon(log, 15),
+            log -> makeChainsUpon(log, 69),
             log -> changeDefinitions(log),
             log -> changeTables(log),
             log -> changePersons(log),
@@ -409,6 +430,7 @@ public final class RefusalTest {
             int fullKind = kind;
             full(calls, "kind " + kind + " as 71st node", x -> x.node(fullKind, 1, 1, 1));
         }
+        full(calls, "a node of level 10 as 71st node", x -> x.node(Check.NOT, 24, 0, 0));
         refused(calls, "a node of level 11", x -> x.node(Check.NOT, 25, 0, 0));
         refused(calls, "a node upon no node", x -> x.node(Check.NOT, 70, 0, 0));
         for (int t = 0; t < 2; t++) {

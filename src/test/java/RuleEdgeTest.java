@@ -5,34 +5,7 @@ public final class RuleEdgeTest {
     private static final int MAX_INT = Check.MAX_INT;
 
     public static void main(String[] args) {
-        noDefinitionAtFirst();
-        definitionOutOfRange();
-        definedByNoNode();
-        rankIsZeroWithoutDefined();
-        rankIsOneMoreThanTheGreatest();
-        rankComesFromEveryOperandNode();
-        rankComesFromAnyDepth();
-        rankDoesNotComeFromOtherOperands();
-        definitionOfARankThatNoneMayHave();
-        undefineWhatIsNotThere();
-        undefineOutOfRange();
-        definitionThatIsNotThereIsEmpty();
-        definedAnew();
-        tableOutOfRange();
-        limitIsOneOrMore();
-        limitIsAboveTheLast();
-        rateOutOfRange();
-        fiveSteps();
-        refusedStepWhenFull();
-        clearTellsHowMany();
-        clearOutOfRange();
-        stepsAfterClear();
-        amountOfZeroOrLess();
-        partsBetweenLimits();
-        nothingAboveTheLastLimit();
-        nothingWithoutSteps();
-        sumIsRounded();
-        greatestAmounts();
+        check.run(RuleEdgeTest.class);
         check.end();
     }
 
@@ -42,8 +15,8 @@ public final class RuleEdgeTest {
         check.due("count(7) after it", want == 0 ? before | 1 << d : before, x.count(7));
     }
 
+    @Sentence("DEFINITIONS 0 .. 7 are nodes, none at first.")
     private static void noDefinitionAtFirst() {
-        check.sentence("DEFINITIONS 0 .. 7 are nodes, none at first.");
         RulePayroll x = new RulePayroll();
         check.due("count(7)", 0, x.count(7));
         for (int d = 0; d < 8; d++) {
@@ -51,8 +24,8 @@ public final class RuleEdgeTest {
         }
     }
 
+    @Sentence("Definition d 0 .. 7 becomes the node: 0.")
     private static void definitionOutOfRange() {
-        check.sentence("Definition d 0 .. 7 becomes the node: 0.");
         RulePayroll x = new RulePayroll();
         int n = Check.number(x, 1);
         for (int bad : Check.outside(7)) {
@@ -65,8 +38,8 @@ public final class RuleEdgeTest {
         check.due("count(7)", 255, x.count(7));
     }
 
+    @Sentence("No such node")
     private static void definedByNoNode() {
-        check.sentence("No such node: REFUSED");
         RulePayroll x = new RulePayroll();
         definedTo(x, 7, 0, Check.REFUSED);
         Check.number(x, 1);
@@ -83,8 +56,8 @@ public final class RuleEdgeTest {
         check.due("definition 7 after a refusal", 2, x.value(0, seven));
     }
 
+    @Sentence("0 without one.")
     private static void rankIsZeroWithoutDefined() {
-        check.sentence("A node is OF RANK .. 0 without one (a DEFINED node in it)");
         RulePayroll x = new RulePayroll();
         for (int kind = 0; kind < 20; kind++) {
             if (kind != Check.DEFINED) {
@@ -93,8 +66,11 @@ public final class RuleEdgeTest {
         }
     }
 
+    @Sentence({
+        "A node is OF RANK k if k is 1 more than the greatest a of all DEFINED nodes in it",
+        "or its RANK is above d: REFUSED."
+    })
     private static void rankIsOneMoreThanTheGreatest() {
-        check.sentence("OF RANK k if k is 1 more than the greatest a of all DEFINED nodes / its RANK is above d: REFUSED");
         for (int a = 0; a < 8; a++) {
             RulePayroll x = new RulePayroll();
             int n = x.node(Check.DEFINED, a, 0, 0);
@@ -104,8 +80,8 @@ public final class RuleEdgeTest {
         }
     }
 
+    @Sentence("all DEFINED nodes in it (itself and its operands at any depth)")
     private static void rankComesFromEveryOperandNode() {
-        check.sentence("all DEFINED nodes in it (itself and its operands)");
         for (int kind = 0; kind < 20; kind++) {
             for (int which = 1; which <= 4; which *= 2) {
                 if ((Check.nodeOperands(kind) & which) == 0) {
@@ -124,8 +100,8 @@ public final class RuleEdgeTest {
         }
     }
 
+    @Sentence("(itself and its operands at any depth)")
     private static void rankComesFromAnyDepth() {
-        check.sentence("itself and its operands at any depth");
         RulePayroll x = new RulePayroll();
         int top = x.node(Check.DEFINED, 5, 0, 0);
         for (int level = 2; level <= 10; level++) {
@@ -141,8 +117,8 @@ public final class RuleEdgeTest {
         definedTo(x, 3, outer, 0);
     }
 
+    @Sentence("all DEFINED nodes in it (itself and its operands at any depth)")
     private static void rankDoesNotComeFromOtherOperands() {
-        check.sentence("all DEFINED nodes in it: a table's number, -1 and operands not named are no nodes");
         RulePayroll x = new RulePayroll();
         int seven = x.node(Check.DEFINED, 7, 0, 0);
         int eight = x.node(Check.DEFINED, 7, 0, 0);
@@ -159,8 +135,8 @@ public final class RuleEdgeTest {
         definedTo(x, 0, x.node(Check.NOTHING, seven, seven, seven), 0);
     }
 
+    @Sentence("or its RANK is above d: REFUSED.")
     private static void definitionOfARankThatNoneMayHave() {
-        check.sentence("its RANK is above d: REFUSED, for every d if the RANK is 8");
         RulePayroll x = new RulePayroll();
         int seven = x.node(Check.DEFINED, 7, 0, 0);
         int upon = x.node(Check.NOT, seven, 0, 0);
@@ -172,8 +148,8 @@ public final class RuleEdgeTest {
         check.due("the node itself", 4, x.value(0, seven));
     }
 
+    @Sentence("Definition d 0 .. 7 is not there any more: 0.")
     private static void undefineWhatIsNotThere() {
-        check.sentence("Definition d 0 .. 7 is not there any more: 0.");
         RulePayroll x = new RulePayroll();
         int n = Check.number(x, 1);
         for (int d = 0; d < 8; d++) {
@@ -190,8 +166,11 @@ public final class RuleEdgeTest {
         }
     }
 
+    @Sentence({
+        "Definition d 0 .. 7 is not there any more: 0.",
+        "Numbers out of their ranges are REFUSED in every call."
+    })
     private static void undefineOutOfRange() {
-        check.sentence("undefine: Numbers out of their ranges are REFUSED in every call.");
         RulePayroll x = new RulePayroll();
         int n = Check.number(x, 1);
         for (int d = 0; d < 8; d++) {
@@ -203,8 +182,11 @@ public final class RuleEdgeTest {
         }
     }
 
+    @Sentence({
+        "A definition that is not there is EMPTY.",
+        "Definition d 0 .. 7 is not there any more: 0."
+    })
     private static void definitionThatIsNotThereIsEmpty() {
-        check.sentence("A definition that is not there is EMPTY.");
         RulePayroll x = new RulePayroll();
         int four = x.node(Check.DEFINED, 4, 0, 0);
         int upon = x.node(Check.ADD, four, four, 0);
@@ -220,8 +202,8 @@ public final class RuleEdgeTest {
         check.due("the node that it was", 6, x.value(0, number));
     }
 
+    @Sentence("Definition d 0 .. 7 becomes the node: 0.")
     private static void definedAnew() {
-        check.sentence("Definition d becomes the node, a later definition too");
         RulePayroll x = new RulePayroll();
         int zero = x.node(Check.DEFINED, 0, 0, 0);
         int seven = x.node(Check.DEFINED, 7, 0, 0);
@@ -242,8 +224,11 @@ public final class RuleEdgeTest {
         check.due("count(6)", want > 0 && t == 1 ? want : before[1], x.count(6));
     }
 
+    @Sentence({
+        "Adds a step to table t 0 .. 1",
+        "Numbers out of their ranges are REFUSED in every call."
+    })
     private static void tableOutOfRange() {
-        check.sentence("Adds a step to table t 0 .. 1");
         RulePayroll x = new RulePayroll();
         for (int bad : Check.outside(1)) {
             steppedTo(x, bad, 1, 1, Check.REFUSED);
@@ -252,8 +237,8 @@ public final class RuleEdgeTest {
         steppedTo(x, 1, 1, 1, 1);
     }
 
+    @Sentence("limit 1 or more")
     private static void limitIsOneOrMore() {
-        check.sentence("limit 1 or more");
         RulePayroll x = new RulePayroll();
         for (int t = 0; t < 2; t++) {
             steppedTo(x, t, 0, 1000, Check.REFUSED);
@@ -263,8 +248,11 @@ public final class RuleEdgeTest {
         }
     }
 
+    @Sentence({
+        "(limits rise)",
+        "and above that of the last step"
+    })
     private static void limitIsAboveTheLast() {
-        check.sentence("and above that of the last step");
         RulePayroll x = new RulePayroll();
         for (int t = 0; t < 2; t++) {
             steppedTo(x, t, 100, 1, 1);
@@ -280,8 +268,8 @@ public final class RuleEdgeTest {
         }
     }
 
+    @Sentence("rate 0 .. 1000")
     private static void rateOutOfRange() {
-        check.sentence("rate 0 .. 1000");
         RulePayroll x = new RulePayroll();
         for (int bad : Check.outside(1000)) {
             steppedTo(x, 0, 1, bad, Check.REFUSED);
@@ -300,8 +288,11 @@ public final class RuleEdgeTest {
         return x;
     }
 
+    @Sentence({
+        "19 SCALE: a table has steps 0, 1, .. (at most 5), each a limit (limits rise) and a rate.",
+        "how many there are. 5 there: FULL."
+    })
     private static void fiveSteps() {
-        check.sentence("how many there are. 5 there: FULL.");
         for (int t = 0; t < 2; t++) {
             RulePayroll x = new RulePayroll();
             for (int s = 1; s <= 5; s++) {
@@ -316,8 +307,9 @@ public final class RuleEdgeTest {
     }
 
     /** What is refused is refused, whether there is room or not: the ranges stand first in the promise. */
+    @Sentence("limit 1 or more and above that of the last step, rate 0 .. 1000: how many there are. 5 "
+        + "there: FULL.")
     private static void refusedStepWhenFull() {
-        check.sentence("limit .. above that of the last step, rate 0 .. 1000: how many there are. 5 there: FULL.");
         RulePayroll x = fiveStepsIn(1);
         steppedTo(x, 1, 50, 1, Check.REFUSED);
         steppedTo(x, 1, 0, 1, Check.REFUSED);
@@ -325,8 +317,8 @@ public final class RuleEdgeTest {
         steppedTo(x, 1, 51, -1, Check.REFUSED);
     }
 
+    @Sentence("Table t 0 .. 1 loses its steps: how many there were.")
     private static void clearTellsHowMany() {
-        check.sentence("Table t 0 .. 1 loses its steps: how many there were.");
         for (int t = 0; t < 2; t++) {
             for (int steps = 0; steps <= 5; steps++) {
                 RulePayroll x = new RulePayroll();
@@ -342,8 +334,11 @@ public final class RuleEdgeTest {
         }
     }
 
+    @Sentence({
+        "Table t 0 .. 1 loses its steps",
+        "Numbers out of their ranges are REFUSED in every call."
+    })
     private static void clearOutOfRange() {
-        check.sentence("clear: Numbers out of their ranges are REFUSED in every call.");
         RulePayroll x = fiveStepsIn(0);
         x.step(1, 1, 1);
         for (int bad : Check.outside(1)) {
@@ -353,8 +348,8 @@ public final class RuleEdgeTest {
         }
     }
 
+    @Sentence("Table t 0 .. 1 loses its steps")
     private static void stepsAfterClear() {
-        check.sentence("Table t loses its steps, and the limits that the next had to be above");
         RulePayroll x = fiveStepsIn(0);
         int scale = x.node(Check.SCALE, 0, Check.number(x, 1000), 0);
         x.clear(0);
@@ -383,8 +378,8 @@ public final class RuleEdgeTest {
         check.due("SCALE of " + amount, want, x.value(0, 1));
     }
 
+    @Sentence("An amount x of 0 or less gives 0.")
     private static void amountOfZeroOrLess() {
-        check.sentence("An amount x of 0 or less gives 0.");
         RulePayroll x = scale(1, 1000, 10, 500, MAX_INT, 1000);
         scaled(x, 0, 0);
         scaled(x, -1, 0);
@@ -394,8 +389,9 @@ public final class RuleEdgeTest {
         scaled(x, 1, 1);
     }
 
+    @Sentence("Else of the part of x that is above the limit of the step before (0 for step 0) and not "
+        + "above its own the rate in thousandths is taken")
     private static void partsBetweenLimits() {
-        check.sentence("of the part of x that is above the limit of the step before (0 for step 0) and not above its own the rate");
         RulePayroll x = scale(10, 1000, 20, 0, 30, 1000, 40, 500, 50, 1000);
         int[][] rows = {
             {1, 1}, {9, 9}, {10, 10}, {11, 10}, {19, 10}, {20, 10}, {21, 11}, {29, 19}, {30, 20},
@@ -411,8 +407,8 @@ public final class RuleEdgeTest {
         scaled(y, 4, 1);
     }
 
+    @Sentence("of the part above the last limit")
     private static void nothingAboveTheLastLimit() {
-        check.sentence("of the part above the last limit nothing");
         RulePayroll x = scale(100, 1000);
         scaled(x, 99, 99);
         scaled(x, 100, 100);
@@ -424,8 +420,8 @@ public final class RuleEdgeTest {
         scaled(x, MAX_INT, 110);
     }
 
+    @Sentence("(above 0 without steps) nothing")
     private static void nothingWithoutSteps() {
-        check.sentence("(above 0 without steps) nothing");
         RulePayroll x = scale();
         scaled(x, MIN_INT, 0);
         scaled(x, 0, 0);
@@ -434,8 +430,8 @@ public final class RuleEdgeTest {
         scaled(x, MAX_INT, 0);
     }
 
+    @Sentence("the sum of these, in thousandths, is divided by 1000 and ROUNDED.")
     private static void sumIsRounded() {
-        check.sentence("the sum of these, in thousandths, is divided by 1000 and ROUNDED");
         scaled(scale(1000, 499), 1, 0);
         scaled(scale(1000, 500), 1, 1);
         scaled(scale(1000, 501), 1, 1);
@@ -452,8 +448,8 @@ public final class RuleEdgeTest {
     }
 
     /** The sum in thousandths is far beyond the ints, what is left of it is not. */
+    @Sentence("the sum of these, in thousandths, is divided by 1000 and ROUNDED.")
     private static void greatestAmounts() {
-        check.sentence("SCALE, up to the greatest int");
         scaled(scale(MAX_INT, 1000), MAX_INT, MAX_INT);
         scaled(scale(MAX_INT, 1), MAX_INT, 2147484);
         scaled(scale(MAX_INT, 999), MAX_INT, 2145336163);

@@ -5,35 +5,7 @@ public final class RunEdgeTest {
     private static final int MAX_INT = Check.MAX_INT;
 
     public static void main(String[] args) {
-        inputsAreZeroAtFirst();
-        inputOutOfRange();
-        inputIsAnyInt();
-        noneActiveAtFirst();
-        activateOutOfRange();
-        activeFromNowOn();
-        runsAreNumberedUpToSixteen();
-        runsTakenBackMakeNoRoom();
-        runOfNoActivePerson();
-        runOfEveryPerson();
-        heldByTheFirstThatIsNoInt();
-        heldForWhatIsNotDefined();
-        heldUnlessExactlyEven();
-        heldIfPaidWouldBeNoInt();
-        reasonsInTheirOrder();
-        heldPersonIsNotPaid();
-        paidBeforeThisRun();
-        paidThatIsNoIntHoldsBeforeAnything();
-        paidThatIsAnIntAgain();
-        backOfNoRun();
-        backTwice();
-        takenBackCountsNoMore();
-        againOfNoRun();
-        againOfARunThatIsNotTheLast();
-        againOfARunTakenBack();
-        againOfTheSixteenth();
-        againByRulesInputsAndPersonsOfNow();
-        againWithoutItsOwnPay();
-        againWithPaidThatIsNoInt();
+        check.run(RunEdgeTest.class);
         check.end();
     }
 
@@ -44,8 +16,8 @@ public final class RunEdgeTest {
         return x;
     }
 
+    @Sentence("PERSONS 0 .. 5 have 8 inputs, all 0 at first")
     private static void inputsAreZeroAtFirst() {
-        check.sentence("PERSONS 0 .. 5 have 8 inputs, all 0 at first");
         RulePayroll x = new RulePayroll();
         for (int i = 0; i < 8; i++) {
             Check.inputNode(x, i);
@@ -55,8 +27,12 @@ public final class RunEdgeTest {
         }
     }
 
+    @Sentence({
+        "PERSONS 0 .. 5 have 8 inputs",
+        "Sets input i 0 .. 7 of person p 0 .. 5: 0.",
+        "Numbers out of their ranges are REFUSED in every call."
+    })
     private static void inputOutOfRange() {
-        check.sentence("Sets input i 0 .. 7 of person p 0 .. 5: 0.");
         RulePayroll x = new RulePayroll();
         for (int i = 0; i < 8; i++) {
             Check.inputNode(x, i);
@@ -88,8 +64,8 @@ public final class RunEdgeTest {
         }
     }
 
+    @Sentence("Sets input i 0 .. 7 of person p 0 .. 5: 0.")
     private static void inputIsAnyInt() {
-        check.sentence("input: any value, a later one in place of an earlier one");
         RulePayroll x = new RulePayroll();
         Check.inputNode(x, 7);
         int[] values = {MIN_INT, MIN_INT + 1, -1, 0, 1, MAX_INT - 1, MAX_INT, 0};
@@ -99,8 +75,20 @@ public final class RunEdgeTest {
         }
     }
 
+    @Sentence("and PAID gross and tax, 0 at first")
+    private static void nothingIsPaidAtFirst() {
+        RulePayroll x = new RulePayroll();
+        for (int what = 0; what < 2; what++) {
+            int n = x.node(Check.PAID, what, 0, 0);
+            for (int p = 0; p < 6; p++) {
+                check.due("paid(" + p + ", " + what + ")", 0, x.paid(p, what));
+                check.due("PAID " + what + " of " + p, 0, x.value(p, n));
+            }
+        }
+    }
+
+    @Sentence("and are active or not (not at first).")
     private static void noneActiveAtFirst() {
-        check.sentence("and are active or not (not at first)");
         RulePayroll x = Check.payrollOfInputs();
         check.due("count(4)", 0, x.count(4));
         x.pay();
@@ -110,8 +98,11 @@ public final class RunEdgeTest {
         }
     }
 
+    @Sentence({
+        "Person p 0 .. 5 is active or not",
+        "Numbers out of their ranges are REFUSED in every call."
+    })
     private static void activateOutOfRange() {
-        check.sentence("Person p 0 .. 5 is active or not: Numbers out of their ranges are REFUSED in every call.");
         RulePayroll x = new RulePayroll();
         for (int bad : Check.outside(5)) {
             check.due("activate(" + bad + ", true)", Check.REFUSED, x.activate(bad, true));
@@ -129,8 +120,8 @@ public final class RunEdgeTest {
         }
     }
 
+    @Sentence("Person p 0 .. 5 is active or not from now on: 0.")
     private static void activeFromNowOn() {
-        check.sentence("is active or not from now on");
         RulePayroll x = payrollOf(5, 3, 1, 2);
         x.pay();
         x.activate(5, false);
@@ -145,8 +136,11 @@ public final class RunEdgeTest {
         check.due("a slip again", 3, x.slip(2, 5, 0));
     }
 
+    @Sentence({
+        "A PAY RUN, numbered 0, 1, .. (at most 16)",
+        "A PAY RUN is made: its number. 16 were made: FULL."
+    })
     private static void runsAreNumberedUpToSixteen() {
-        check.sentence("A PAY RUN, numbered 0, 1, .. (at most 16) / 16 were made: FULL.");
         RulePayroll x = payrollOf(0, 10, 4, 6);
         for (int r = 0; r < 16; r++) {
             check.due("pay()", r, x.pay());
@@ -162,8 +156,8 @@ public final class RunEdgeTest {
         check.due("slip behind the last", Check.NONE, x.slip(16, 0, 0));
     }
 
+    @Sentence("16 were made: FULL.")
     private static void runsTakenBackMakeNoRoom() {
-        check.sentence("16 were made: FULL, though they are TAKEN BACK");
         RulePayroll x = payrollOf(0, 10, 4, 6);
         for (int r = 0; r < 16; r++) {
             check.due("pay()", r, x.pay());
@@ -175,8 +169,8 @@ public final class RunEdgeTest {
         check.due("paid gross", 0, x.paid(0, 0));
     }
 
+    @Sentence("goes through the active persons in order.")
     private static void runOfNoActivePerson() {
-        check.sentence("goes through the active persons: none is active");
         RulePayroll x = Check.payrollOfInputs();
         check.due("pay()", 0, x.pay());
         check.due("count(1)", 1, x.count(1));
@@ -187,8 +181,8 @@ public final class RunEdgeTest {
         check.due("count(2)", 1, x.count(2));
     }
 
+    @Sentence("goes through the active persons in order.")
     private static void runOfEveryPerson() {
-        check.sentence("goes through the active persons in order: all are active");
         RulePayroll x = Check.payrollOfInputs();
         for (int p = 0; p < 6; p++) {
             x.activate(p, true);
@@ -204,9 +198,42 @@ public final class RunEdgeTest {
         check.due("again(0)", 6, x.again(0));
     }
 
+    /** What the other definitions are, a FAULT or not there, is nothing to a run. */
+    @Sentence("DEFINITIONS 0, 1 and 2 are the gross, the tax and the net.")
+    private static void grossTaxAndNetAreDefinitions() {
+        RulePayroll x = new RulePayroll();
+        int[] numbers = {50, 20, 30};
+        for (int d = 0; d < 3; d++) {
+            x.define(d, Check.number(x, numbers[d]));
+        }
+        x.activate(2, true);
+        x.pay();
+        int fault = Check.zeroFault(x);
+        for (int d = 3; d < 8; d++) {
+            x.define(d, fault);
+        }
+        x.pay();
+        for (int r = 0; r < 2; r++) {
+            for (int what = 0; what < 3; what++) {
+                check.due("slip(" + r + ", 2, " + what + ")", numbers[what], x.slip(r, 2, what));
+            }
+        }
+        for (int d = 0; d < 3; d++) {
+            x.define(d, fault);
+            check.due("again(1)", 0, x.again(1));
+            check.due("held for definition " + d, 3, x.held(1, 2));
+            x.define(d, d);
+        }
+        check.due("again(1)", 1, x.again(1));
+    }
+
     /** Of the gross, the tax and the net each may be an int (0), EMPTY (5) or a FAULT (1 to 4). */
+    @Sentence({
+        "For each the gross, then the tax, then the net are worked out",
+        "the person is HELD if one of them is no int (its reason is the FAULT, 2 if it is EMPTY, "
+            + "of the first such)"
+    })
     private static void heldByTheFirstThatIsNoInt() {
-        check.sentence("HELD if one of them is no int (its reason is the FAULT, 2 if it is EMPTY, of the first such)");
         for (int sort = 0; sort < 216; sort++) {
             int[] sorts = {sort / 36, sort / 6 % 6, sort % 6};
             RulePayroll x = new RulePayroll();
@@ -227,8 +254,11 @@ public final class RunEdgeTest {
         }
     }
 
+    @Sentence({
+        "A definition that is not there is EMPTY.",
+        "2 if it is EMPTY"
+    })
     private static void heldForWhatIsNotDefined() {
-        check.sentence("A definition that is not there is EMPTY .. reason 2");
         for (int there = 0; there < 8; there++) {
             RulePayroll x = Check.payrollOfInputs();
             x.activate(1, true);
@@ -252,8 +282,8 @@ public final class RunEdgeTest {
         return x.held(0, 3);
     }
 
+    @Sentence("or if gross - tax, exactly, is not net (reason 5)")
     private static void heldUnlessExactlyEven() {
-        check.sentence("or if gross - tax, exactly, is not net (reason 5)");
         check.due("10 - 4 is 6", 0, reasonFor(10, 4, 6));
         check.due("10 - 4 is not 5", 5, reasonFor(10, 4, 5));
         check.due("10 - 4 is not 7", 5, reasonFor(10, 4, 7));
@@ -270,8 +300,8 @@ public final class RunEdgeTest {
     }
 
     /** What was PAID is at an end of the ints or 1 before it, and 1 more is to be paid. */
+    @Sentence("or if PAID gross or tax would be no int (reason 6).")
     private static void heldIfPaidWouldBeNoInt() {
-        check.sentence("or if PAID gross or tax would be no int (reason 6)");
         for (int what = 0; what < 2; what++) {
             for (int sign = -1; sign <= 1; sign += 2) {
                 long end = sign > 0 ? MAX_INT : MIN_INT;
@@ -293,8 +323,9 @@ public final class RunEdgeTest {
         }
     }
 
+    @Sentence("or if gross - tax, exactly, is not net (reason 5), or if PAID gross or tax would be no "
+        + "int (reason 6). Else")
     private static void reasonsInTheirOrder() {
-        check.sentence("one of them is no int .., or if gross - tax is not net (5), or if PAID would be no int (6)");
         RulePayroll x = Check.payrollOfInputs();
         int fault = Check.zeroFault(x);
         Check.bringPaidTo(x, 0, MAX_INT, 0);
@@ -312,8 +343,31 @@ public final class RunEdgeTest {
         check.due("tax is EMPTY, net a FAULT", 2, x.held(run, 0));
     }
 
+    @Sentence("Else a SLIP of the run has the gross, tax and net, and PAID grows by gross and tax.")
+    private static void whoIsNotHeldHasASlip() {
+        RulePayroll x = Check.payrollOfInputs();
+        x.activate(4, true);
+        int[][] wages = {{100, 30, 70}, {5, 9, -4}, {-20, -7, -13}, {0, 0, 0}};
+        long gross = 0;
+        long tax = 0;
+        for (int r = 0; r < wages.length; r++) {
+            Check.wages(x, 4, wages[r][0], wages[r][1], wages[r][2]);
+            x.pay();
+            gross += wages[r][0];
+            tax += wages[r][1];
+            check.due("held", 0, x.held(r, 4));
+            check.due("paid gross", gross, x.paid(4, 0));
+            check.due("paid tax", tax, x.paid(4, 1));
+        }
+        for (int r = 0; r < wages.length; r++) {
+            for (int what = 0; what < 3; what++) {
+                check.due("slip(" + r + ", 4, " + what + ")", wages[r][what], x.slip(r, 4, what));
+            }
+        }
+    }
+
+    @Sentence("Else a SLIP of the run has the gross, tax and net, and PAID grows by gross and tax.")
     private static void heldPersonIsNotPaid() {
-        check.sentence("Else a SLIP of the run has the gross, tax and net, and PAID grows by gross and tax.");
         RulePayroll x = payrollOf(2, 10, 4, 5);
         x.activate(3, true);
         Check.wages(x, 3, 7, 9, -2);
@@ -329,8 +383,8 @@ public final class RunEdgeTest {
         check.due("count(3)", 1, x.count(3));
     }
 
+    @Sentence("with what was PAID before this run")
     private static void paidBeforeThisRun() {
-        check.sentence("are worked out, with what was PAID before this run");
         RulePayroll x = new RulePayroll();
         int paidGross = x.node(Check.PAID, 0, 0, 0);
         int gross = x.node(Check.ADD, paidGross, Check.number(x, 1), 0);
@@ -348,8 +402,8 @@ public final class RunEdgeTest {
     }
 
     /** Rules that would give a FAULT, be uneven, or bring PAID back within the ints: none is looked at. */
+    @Sentence("a person whose PAID is no int is HELD with reason 6 before anything is worked out")
     private static void paidThatIsNoIntHoldsBeforeAnything() {
-        check.sentence("a person whose PAID is no int is HELD with reason 6 before anything is worked out");
         long[][] beyond = {{MAX_INT + 1L, 0}, {MIN_INT - 1L, 0}, {0, MAX_INT + 1L}, {0, MIN_INT - 1L}};
         for (long[] paid : beyond) {
             RulePayroll x = Check.payrollOfInputs();
@@ -375,8 +429,8 @@ public final class RunEdgeTest {
         }
     }
 
+    @Sentence("(PAID is then exact, perhaps no int")
     private static void paidThatIsAnIntAgain() {
-        check.sentence("PAID is then exact, perhaps no int");
         RulePayroll x = Check.payrollOfInputs();
         Check.bringPaidTo(x, 1, MAX_INT + 1L, 0);
         check.due("paid gross", MAX_INT + 1L, x.paid(1, 0));
@@ -389,8 +443,8 @@ public final class RunEdgeTest {
         check.due("a slip", 0, x.slip(4, 1, 0));
     }
 
+    @Sentence("There is none, or it is TAKEN BACK: REFUSED.")
     private static void backOfNoRun() {
-        check.sentence("back: There is none: REFUSED.");
         RulePayroll x = payrollOf(0, 10, 4, 6);
         check.due("back(0) without runs", Check.REFUSED, x.back(0));
         for (int r = 0; r < 3; r++) {
@@ -408,8 +462,8 @@ public final class RunEdgeTest {
         check.due("paid gross", 10, x.paid(0, 0));
     }
 
+    @Sentence("Run r is TAKEN BACK: 0. There is none, or it is TAKEN BACK: REFUSED.")
     private static void backTwice() {
-        check.sentence("back: it is TAKEN BACK: REFUSED.");
         RulePayroll x = payrollOf(0, 10, 4, 6);
         x.pay();
         x.pay();
@@ -424,15 +478,18 @@ public final class RunEdgeTest {
         }
     }
 
+    @Sentence({
+        "A run that is TAKEN BACK counts no more, and its slips' gross and tax are no more PAID",
+        "Run r is TAKEN BACK: 0."
+    })
     private static void takenBackCountsNoMore() {
-        check.sentence("A run that is TAKEN BACK counts no more, and its slips' gross and tax are no more PAID");
         RulePayroll x = payrollOf(0, 10, 4, 6);
         x.activate(5, true);
         Check.wages(x, 5, -3, 2, -5);
         x.pay();
         Check.wages(x, 0, 100, 40, 60);
         x.pay();
-        x.back(0);
+        check.due("back(0)", 0, x.back(0));
         check.due("wages", 97, x.account(0));
         check.due("tax due", -42, x.account(1));
         check.due("net due", -55, x.account(2));
@@ -446,8 +503,8 @@ public final class RunEdgeTest {
         check.due("the next run's number", 2, x.pay());
     }
 
+    @Sentence("There is none, it is not the last one, or it is TAKEN BACK: REFUSED.")
     private static void againOfNoRun() {
-        check.sentence("again: There is none: REFUSED.");
         RulePayroll x = payrollOf(0, 10, 4, 6);
         check.due("again(0) without runs", Check.REFUSED, x.again(0));
         check.due("again(-1) without runs", Check.REFUSED, x.again(-1));
@@ -462,8 +519,8 @@ public final class RunEdgeTest {
         check.due("again(16)", Check.REFUSED, x.again(16));
     }
 
+    @Sentence("There is none, it is not the last one, or it is TAKEN BACK: REFUSED.")
     private static void againOfARunThatIsNotTheLast() {
-        check.sentence("again: it is not the last one: REFUSED.");
         RulePayroll x = payrollOf(0, 10, 4, 6);
         for (int last = 0; last < 4; last++) {
             x.pay();
@@ -478,8 +535,8 @@ public final class RunEdgeTest {
         check.due("paid gross", 40, x.paid(0, 0));
     }
 
+    @Sentence("There is none, it is not the last one, or it is TAKEN BACK: REFUSED.")
     private static void againOfARunTakenBack() {
-        check.sentence("again: or it is TAKEN BACK: REFUSED.");
         RulePayroll x = payrollOf(0, 10, 4, 6);
         x.pay();
         x.pay();
@@ -496,8 +553,8 @@ public final class RunEdgeTest {
         check.due("paid gross", 7, x.paid(0, 0));
     }
 
+    @Sentence("Run r, the last one made")
     private static void againOfTheSixteenth() {
-        check.sentence("again: Run r, the last one made, when 16 were made");
         RulePayroll x = payrollOf(0, 10, 4, 6);
         for (int r = 0; r < 16; r++) {
             x.pay();
@@ -514,8 +571,9 @@ public final class RunEdgeTest {
         check.due("again(15) taken back", Check.REFUSED, x.again(15));
     }
 
+    @Sentence("made anew in its place, by rules, inputs and active persons as they are now: how many "
+        + "SLIPS it has then.")
     private static void againByRulesInputsAndPersonsOfNow() {
-        check.sentence("made anew in its place, by rules, inputs and active persons as they are now: how many SLIPS it has then");
         RulePayroll x = payrollOf(0, 10, 4, 6);
         x.activate(1, true);
         x.pay();
@@ -545,8 +603,8 @@ public final class RunEdgeTest {
     }
 
     /** PAID is at the end of the ints by the run itself: made anew it has all that room again. */
+    @Sentence("Run r, the last one made, is TAKEN BACK and made anew in its place")
     private static void againWithoutItsOwnPay() {
-        check.sentence("again: Run r is TAKEN BACK and made anew: PAID is what it was before");
         RulePayroll x = payrollOf(0, MAX_INT, 0, MAX_INT);
         x.pay();
         for (int more = 0; more < 3; more++) {
@@ -561,8 +619,8 @@ public final class RunEdgeTest {
     }
 
     /** What is left when the last run is taken back decides, not what was there with it. */
+    @Sentence("Run r, the last one made, is TAKEN BACK and made anew in its place")
     private static void againWithPaidThatIsNoInt() {
-        check.sentence("again: with PAID that is an int only with the run, or only without it");
         RulePayroll x = payrollOf(2, -1, 0, -1);
         int[] wages = {-1, MAX_INT, 1, -1};
         for (int wage : wages) {

@@ -15,26 +15,7 @@ public final class WorkingOutEdgeTest {
     };
 
     public static void main(String[] args) {
-        everySortOfValue();
-        truthIsOtherThanZero();
-        lessAndSameGiveOneOrZero();
-        minAndMax();
-        rounded();
-        roundedOfTwoEquallyNear();
-        roundedWithTheGreatestDivisors();
-        firstOperandThatIsNoInt();
-        secondAndThirdOperandThatIsNoInt();
-        bothWorksOutTheSecondOnlyIfTrue();
-        anyWorksOutTheSecondOnlyIfZero();
-        ifWorksOutOnlyWhatIsTaken();
-        divisionByZero();
-        resultsAtTheEdgesOfTheInts();
-        sharesAtTheEdgesOfTheInts();
-        productsThatWouldWrap();
-        also();
-        defaults();
-        noSuchNodeOrPerson();
-        paidThatIsNoInt();
+        check.run(WorkingOutEdgeTest.class);
         check.end();
     }
 
@@ -82,8 +63,12 @@ public final class WorkingOutEdgeTest {
         return sample == EMPTY ? Check.MISSING : VALUES[sample];
     }
 
+    @Sentence({
+        "A VALUE is an int, or EMPTY, or a FAULT: 1 CONFLICT, 2 MISSING, 3 ZERO (a division by 0), "
+            + "4 RANGE (a result that is no int).",
+        "FAULT + f for a FAULT"
+    })
     private static void everySortOfValue() {
-        check.sentence("A VALUE is an int, or EMPTY, or a FAULT: 1 CONFLICT, 2 MISSING, 3 ZERO, 4 RANGE / FAULT + f");
         RulePayroll x = samples();
         for (int n = 0; n < SAMPLES; n++) {
             check.due("sample " + n, VALUES[n], x.value(0, n));
@@ -97,8 +82,91 @@ public final class WorkingOutEdgeTest {
         }
     }
 
+    @Sentence("The constants: `FAULT = 1000000000100L`: FAULT f is FAULT + f.")
+    private static void faultsByTheirNumbers() {
+        check.due("FAULT", 1000000000100L, RulePayroll.FAULT);
+        RulePayroll x = new RulePayroll();
+        check.due("CONFLICT", 1000000000101L, x.value(0, Check.conflictFault(x)));
+        check.due("MISSING", 1000000000102L, x.value(0, Check.missingFault(x)));
+        check.due("ZERO", 1000000000103L, x.value(0, Check.zeroFault(x)));
+        check.due("RANGE", 1000000000104L, x.value(0, Check.rangeFault(x)));
+    }
+
+    @Sentence("4 ADD 5 SUB 6 MUL")
+    private static void addSubAndMul() {
+        int[] values = {-70000, -12, -1, 0, 1, 5, 12, 30000};
+        for (int a : values) {
+            for (int b : values) {
+                due(Check.ADD, a, b, a + b);
+                due(Check.SUB, a, b, a - b);
+                long product = (long) a * b;
+                due(Check.MUL, a, b, product == (int) product ? product : Check.RANGE);
+            }
+        }
+        check.due("a node added to itself", 14, ofOneNode(Check.ADD, 7));
+        check.due("a node taken from itself", 0, ofOneNode(Check.SUB, 7));
+        check.due("a node times itself", 49, ofOneNode(Check.MUL, 7));
+    }
+
+    private static long ofOneNode(int kind, int a) {
+        RulePayroll x = new RulePayroll();
+        int n = Check.number(x, a);
+        return x.value(0, x.node(kind, n, n, 0));
+    }
+
+    @Sentence("11 SHARE of nodes a, b, c: a * b / c, ROUNDED.")
+    private static void sharesOfThreeNodes() {
+        shareDue(12, 5, 4, 15);
+        shareDue(5, 12, 4, 15);
+        shareDue(12, 4, 5, 10);
+        shareDue(4, 12, 5, 10);
+        shareDue(5, 4, 12, 2);
+        shareDue(100, 333, 1000, 33);
+        shareDue(100, 335, 1000, 34);
+        shareDue(0, 12, 5, 0);
+        shareDue(12, 0, 5, 0);
+    }
+
+    @Sentence("12 NOT of node a: 1 if it is 0, else 0.")
+    private static void notOfANode() {
+        due(Check.NOT, 0, 0, 1);
+        int[] others = {MIN_INT, -2, -1, 1, 2, MAX_INT};
+        for (int a : others) {
+            due(Check.NOT, a, 0, 0);
+        }
+    }
+
+    @Sentence("13 BOTH, 14 ANY of nodes a, b: 1 if both are true, one is true, else 0.")
+    private static void bothAndAny() {
+        int[][] rows = {{0, 0, 0, 0}, {0, 1, 0, 1}, {1, 0, 0, 1}, {1, 1, 1, 1}, {2, 4, 1, 1}, {-1, 0, 0, 1}, {0, -1, 0, 1}};
+        for (int[] row : rows) {
+            due(Check.BOTH, row[0], row[1], row[2]);
+            due(Check.ANY, row[0], row[1], row[3]);
+        }
+    }
+
+    @Sentence("15 IF node a: node b, else node c.")
+    private static void ifTakesBOrC() {
+        int[][] rows = {{1, 7, 8, 7}, {0, 7, 8, 8}, {-1, 0, 8, 0}, {0, 7, 0, 0}, {MIN_INT, 7, 8, 7}, {MAX_INT, -7, 8, -7}};
+        for (int[] row : rows) {
+            check.due("IF " + row[0] + ": " + row[1] + ", else " + row[2], row[3], of(Check.IF, row[0], row[1], row[2]));
+        }
+    }
+
+    @Sentence("16 NOTHING: EMPTY.")
+    private static void nothingIsEmpty() {
+        RulePayroll x = new RulePayroll();
+        int[] anys = {0, -1, 7, MAX_INT};
+        for (int any : anys) {
+            int n = x.node(Check.NOTHING, any, any, any);
+            for (int p = 0; p < 6; p++) {
+                check.due("NOTHING for " + p, 1000000000001L, x.value(p, n));
+            }
+        }
+    }
+
+    @Sentence("Truth is an int: other than 0 true.")
     private static void truthIsOtherThanZero() {
-        check.sentence("Truth is an int: other than 0 true.");
         int[] values = {0, 1, -1, 2, 256, 65536, 1 << 30, MIN_INT, MAX_INT};
         for (int a : values) {
             int truth = a == 0 ? 0 : 1;
@@ -118,8 +186,11 @@ public final class WorkingOutEdgeTest {
         return x.value(0, x.node(Check.DEFAULT, -1, condition, Check.number(x, c)));
     }
 
+    @Sentence({
+        "7 LESS 8 SAME",
+        "LESS and SAME give 1 or 0."
+    })
     private static void lessAndSameGiveOneOrZero() {
-        check.sentence("LESS and SAME give 1 or 0");
         int[] values = {MIN_INT, MIN_INT + 1, -1, 0, 1, MAX_INT - 1, MAX_INT};
         for (int a : values) {
             for (int b : values) {
@@ -129,8 +200,8 @@ public final class WorkingOutEdgeTest {
         }
     }
 
+    @Sentence("9 MIN 10 MAX of nodes a, b")
     private static void minAndMax() {
-        check.sentence("9 MIN 10 MAX of nodes a, b");
         int[] values = {MIN_INT, -1, 0, 1, MAX_INT};
         for (int a : values) {
             for (int b : values) {
@@ -140,8 +211,8 @@ public final class WorkingOutEdgeTest {
         }
     }
 
+    @Sentence("ROUNDED: the nearest whole number")
     private static void rounded() {
-        check.sentence("ROUNDED: the nearest whole number");
         int[][] sizes = {
             {0, 5, 0}, {1, 3, 0}, {2, 3, 1}, {3, 3, 1}, {4, 3, 1}, {5, 3, 2}, {1, 4, 0}, {3, 4, 1}, {2, 5, 0},
             {3, 5, 1}, {499, 1000, 0}, {501, 1000, 1}, {1499, 1000, 1}, {1501, 1000, 2}, {7, 1, 7}
@@ -151,8 +222,8 @@ public final class WorkingOutEdgeTest {
         }
     }
 
+    @Sentence("of two equally near the one farther from 0.")
     private static void roundedOfTwoEquallyNear() {
-        check.sentence("of two equally near the one farther from 0");
         int[][] sizes = {{1, 2, 1}, {3, 2, 2}, {5, 2, 3}, {2, 4, 1}, {6, 4, 2}, {3, 6, 1}, {500, 1000, 1}, {1500, 1000, 2}};
         for (int[] row : sizes) {
             withBothSigns(row[0], row[1], row[2]);
@@ -167,8 +238,8 @@ public final class WorkingOutEdgeTest {
         shareDue(-1, -number, divisor, size);
     }
 
+    @Sentence("11 SHARE of nodes a, b, c: a * b / c, ROUNDED.")
     private static void roundedWithTheGreatestDivisors() {
-        check.sentence("SHARE of nodes a, b, c: a * b / c, ROUNDED, with the least and the greatest c");
         int half = 1 << 30;
         shareDue(half - 1, 1, MAX_INT, 0);
         shareDue(half, 1, MAX_INT, 1);
@@ -186,8 +257,12 @@ public final class WorkingOutEdgeTest {
         shareDue(MAX_INT, 1, 1, MAX_INT);
     }
 
+    @Sentence({
+        "WORKING OUT a node (4 to 15, 19): its operand nodes in the order a, b, c",
+        "The first operand that is a FAULT or EMPTY: that FAULT, or MISSING (the operands behind it "
+            + "do not matter)."
+    })
     private static void firstOperandThatIsNoInt() {
-        check.sentence("The first operand that is a FAULT or EMPTY: that FAULT, or MISSING (the operands behind it do not matter).");
         for (int bad = EMPTY; bad < SAMPLES; bad++) {
             for (int behind = 0; behind < SAMPLES; behind++) {
                 for (int kind = Check.ADD; kind <= Check.IF; kind++) {
@@ -199,8 +274,8 @@ public final class WorkingOutEdgeTest {
         }
     }
 
+    @Sentence("WORKING OUT a node (4 to 15, 19): its operand nodes in the order a, b, c")
     private static void secondAndThirdOperandThatIsNoInt() {
-        check.sentence("its operand nodes in the order a, b, c: the first that is a FAULT or EMPTY");
         for (int bad = EMPTY; bad < SAMPLES; bad++) {
             for (int first = INT; first <= FALSE; first++) {
                 for (int kind = Check.ADD; kind <= Check.MAX; kind++) {
@@ -215,8 +290,8 @@ public final class WorkingOutEdgeTest {
         }
     }
 
+    @Sentence("but of 13 b only if a is true")
     private static void bothWorksOutTheSecondOnlyIfTrue() {
-        check.sentence("of 13 b only if a is true");
         for (int b = 0; b < SAMPLES; b++) {
             check.due("BOTH of 0 and sample " + b, 0, ofSamples(Check.BOTH, FALSE, b, 0));
             long want = b == INT ? 1 : b == FALSE ? 0 : faultOf(b);
@@ -224,8 +299,8 @@ public final class WorkingOutEdgeTest {
         }
     }
 
+    @Sentence("of 14 b only if a is 0")
     private static void anyWorksOutTheSecondOnlyIfZero() {
-        check.sentence("of 14 b only if a is 0");
         for (int b = 0; b < SAMPLES; b++) {
             check.due("ANY of 5 and sample " + b, 1, ofSamples(Check.ANY, INT, b, 0));
             long want = b == INT ? 1 : b == FALSE ? 0 : faultOf(b);
@@ -233,8 +308,11 @@ public final class WorkingOutEdgeTest {
         }
     }
 
+    @Sentence({
+        "of 15 only the one of b and c that is taken.",
+        "(15: what is taken is the VALUE as it is, EMPTY or a FAULT too.)"
+    })
     private static void ifWorksOutOnlyWhatIsTaken() {
-        check.sentence("of 15 only the one of b and c that is taken .. is the VALUE as it is, EMPTY or a FAULT too");
         for (int b = 0; b < SAMPLES; b++) {
             for (int c = 0; c < SAMPLES; c++) {
                 check.due("IF 5: " + b + ", else " + c, VALUES[b], ofSamples(Check.IF, INT, b, c));
@@ -243,8 +321,8 @@ public final class WorkingOutEdgeTest {
         }
     }
 
+    @Sentence("Then for 11 c is 0: ZERO; then a result that is no int: RANGE.")
     private static void divisionByZero() {
-        check.sentence("Then for 11 c is 0: ZERO; then a result that is no int: RANGE.");
         shareDue(1, 1, 0, Check.ZERO);
         shareDue(0, 0, 0, Check.ZERO);
         shareDue(MAX_INT, MAX_INT, 0, Check.ZERO);
@@ -257,8 +335,8 @@ public final class WorkingOutEdgeTest {
         }
     }
 
+    @Sentence("then a result that is no int: RANGE.")
     private static void resultsAtTheEdgesOfTheInts() {
-        check.sentence("then a result that is no int: RANGE");
         due(Check.ADD, MAX_INT - 1, 1, MAX_INT);
         due(Check.ADD, MAX_INT, 1, Check.RANGE);
         due(Check.ADD, MAX_INT, MAX_INT, Check.RANGE);
@@ -287,8 +365,11 @@ public final class WorkingOutEdgeTest {
         due(Check.MUL, 1, MAX_INT, MAX_INT);
     }
 
+    @Sentence({
+        "11 SHARE of nodes a, b, c: a * b / c, ROUNDED.",
+        "then a result that is no int: RANGE."
+    })
     private static void sharesAtTheEdgesOfTheInts() {
-        check.sentence("a * b / c, ROUNDED .. then a result that is no int: RANGE");
         shareDue(29, 296204641, 4, MAX_INT);
         shareDue(5, 1717986918, 4, Check.RANGE);
         shareDue(3, 1431655765, 2, Check.RANGE);
@@ -307,8 +388,8 @@ public final class WorkingOutEdgeTest {
     }
 
     /** 2 to the 32nd and 2 to the 62nd: what int arithmetic would make of them looks like a good int. */
+    @Sentence("then a result that is no int: RANGE.")
     private static void productsThatWouldWrap() {
-        check.sentence("a result that is no int: RANGE, far beyond the ints too");
         due(Check.MUL, 65536, 65536, Check.RANGE);
         due(Check.MUL, 65536, -65536, Check.RANGE);
         due(Check.MUL, MIN_INT, MIN_INT, Check.RANGE);
@@ -322,8 +403,12 @@ public final class WorkingOutEdgeTest {
         shareDue(MAX_INT, 1000, 1000, MAX_INT);
     }
 
+    @Sentence({
+        "18 ALSO of nodes a, b: below.",
+        "18 ALSO: a, then b, are worked out, always both: a FAULT: the first one; both are ints: "
+            + "CONFLICT; one is an int: that; else EMPTY."
+    })
     private static void also() {
-        check.sentence("18 ALSO: always both: a FAULT: the first one; both are ints: CONFLICT; one is an int: that; else EMPTY.");
         for (int a = 0; a < SAMPLES; a++) {
             for (int b = 0; b < SAMPLES; b++) {
                 check.due("ALSO of " + a + ", " + b, alsoOf(a, b), ofSamples(Check.ALSO, a, b, 0));
@@ -344,8 +429,12 @@ public final class WorkingOutEdgeTest {
         return VALUES[b];
     }
 
+    @Sentence({
+        "17 DEFAULT: a, unless it is -1: a FAULT or an int: that.",
+        "Else (EMPTY, or -1) b is worked out: a FAULT: that; EMPTY: MISSING; 0: EMPTY; else c: its "
+            + "VALUE as it is."
+    })
     private static void defaults() {
-        check.sentence("17 DEFAULT: a, unless it is -1: a FAULT or an int: that. Else b: a FAULT: that; EMPTY: MISSING; 0: EMPTY; else c");
         for (int a = -1; a < SAMPLES; a++) {
             for (int b = 0; b < SAMPLES; b++) {
                 for (int c = 0; c < SAMPLES; c++) {
@@ -366,8 +455,36 @@ public final class WorkingOutEdgeTest {
         return b == FALSE ? Check.EMPTY : VALUES[c];
     }
 
+    /** For each person its own, by inputs, definitions, steps and pay as they have come to be. */
+    @Sentence("The VALUE of a node for person p 0 .. 5 now")
+    private static void valueIsOfNow() {
+        RulePayroll x = Check.payrollOfInputs();
+        int paidGross = x.node(Check.PAID, 0, 0, 0);
+        int seven = x.node(Check.DEFINED, 7, 0, 0);
+        int scale = x.node(Check.SCALE, 1, seven, 0);
+        x.define(7, x.node(Check.ADD, 0, paidGross, 0));
+        for (int p = 0; p < 6; p++) {
+            Check.wages(x, p, 100 + p, 0, 100 + p);
+            check.due("an input", 100 + p, x.value(p, 0));
+            check.due("a definition", 100 + p, x.value(p, seven));
+            check.due("a scale without steps", 0, x.value(p, scale));
+        }
+        x.step(1, 1000, 500);
+        x.activate(4, true);
+        x.pay();
+        check.due("PAID of who is paid", 104, x.value(4, paidGross));
+        check.due("a definition of who is paid", 208, x.value(4, seven));
+        check.due("a scale of who is paid", 104, x.value(4, scale));
+        check.due("a definition of who is not", 105, x.value(5, seven));
+        check.due("a scale of who is not", 53, x.value(5, scale));
+        x.define(7, 1);
+        check.due("a definition made anew", 0, x.value(4, seven));
+        x.back(0);
+        check.due("PAID of who is paid no more", 0, x.value(4, paidGross));
+    }
+
+    @Sentence("NONE if there is no such node or person")
     private static void noSuchNodeOrPerson() {
-        check.sentence("value: NONE if there is no such node or person");
         RulePayroll x = new RulePayroll();
         check.due("node 0 of a new object", Check.NONE, x.value(0, 0));
         Check.number(x, 1);
@@ -388,8 +505,8 @@ public final class WorkingOutEdgeTest {
     }
 
     /** PAID gross or tax goes to just within the ints and to just beyond, by a run that is taken back. */
+    @Sentence("or the person's PAID is no int.")
     private static void paidThatIsNoInt() {
-        check.sentence("value: NONE if .. the person's PAID is no int");
         long[][] rows = {
             {MAX_INT, 0}, {MAX_INT + 1L, 0}, {MIN_INT, 0}, {MIN_INT - 1L, 0},
             {0, MAX_INT}, {0, MAX_INT + 1L}, {0, MIN_INT}, {0, MIN_INT - 1L}
