@@ -1,4 +1,4 @@
-/** Promises 1 and 13 to 17 and the term ACCOUNTS: each sentence at its edges. */
+/** Promises 1 and 13 to 17 and the term ACCOUNTS: each sentence, at its edges too. */
 public final class AskEdgeTest {
     private static final Check check = new Check();
     private static final int MAX_INT = Check.MAX_INT;

@@ -1,4 +1,4 @@
-/** Promise 2 and the terms NODES, LEVEL and kinds: each sentence at its edges. */
+/** Promise 2 and the terms NODES, LEVEL and kinds: each sentence, at its edges too. */
 public final class NodeEdgeTest {
     private static final Check check = new Check();
     private static final int[] WITHOUT_NODES = {

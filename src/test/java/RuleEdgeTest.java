@@ -1,4 +1,4 @@
-/** Promises 3 to 6 and the terms DEFINITIONS, RANK and SCALE: each sentence at its edges. */
+/** Promises 3 to 6 and the terms DEFINITIONS, RANK and SCALE: each sentence, at its edges too. */
 public final class RuleEdgeTest {
     private static final Check check = new Check();
     private static final int MIN_INT = Check.MIN_INT;

@@ -1,4 +1,4 @@
-/** Promises 7, 8 and 10 to 12 and the terms PERSONS, PAY RUN, HELD and TAKEN BACK: each sentence at its edges. */
+/** Promises 7, 8 and 10 to 12 and the terms PERSONS, PAY RUN, HELD and TAKEN BACK: each sentence, at its edges too. */
 public final class RunEdgeTest {
     private static final Check check = new Check();
     private static final int MIN_INT = Check.MIN_INT;

@@ -1,4 +1,4 @@
-/** Promise 9 and the terms VALUE, ROUNDED, WORKING OUT, ALSO and DEFAULT: each sentence at its edges. */
+/** Promise 9 and the terms VALUE, kinds, ROUNDED, WORKING OUT, ALSO and DEFAULT: each sentence, at its edges too. */
 public final class WorkingOutEdgeTest {
     private static final Check check = new Check();
     private static final int MIN_INT = Check.MIN_INT;
